@@ -45,7 +45,6 @@ public final class OpalField {
         Arrays.fill(purses, FULL_PURSE);
         given = new int[PERSONS];
         diggable = new int[LONGEST_EDGE * LONGEST_EDGE];
-        now = 0;
     }
 
     // ---- ground, hours
@@ -734,7 +733,7 @@ public final class OpalField {
             return count;
         }
 
-        /** Lets fall what falls as this CELL was opened. All is counted first: the row hides nothing. */
+        /** All is measured ahead of either fall: the column goes by what was OPEN ahead of the row's. */
         void fall(int cell) {
             int inRow = looseInRow(cell);
             int inColumn = looseInColumn(cell);

@@ -27,6 +27,10 @@ public final class DiggingTest {
             peg(0, 8, 3, 2); peg(1, 10, 3, 2); sink(0, 0, 9); dig(1, 1, 10) ! state; dig(0, 0, 18) ! state; dig(0, 0, 19) = 0
             dig(1, 1, 20) ! state; sink(1, 1, 20); dig(1, 1, 10) = 0; dig(1, 1, 31) ! state; dig(1, 1, 11) = 0
             """);
+        Script.run("promise 7, the last column is no neighbour of the first one", """
+            peg(0, 8, 3, 2); peg(1, 20, 2, 1); peg(2, 90, 1, 1); peg(2, 99, 1, 1); peg(2, 0, 1, 1); sink(1, 1, 20); dig(0, 0, 19) ! state; dig(0, 0, 29) ! state
+            sink(2, 2, 90); sink(3, 2, 99); dig(4, 2, 0) ! state; dig(0, 0, 9) ! state; dig(1, 1, 30) = 0
+            """);
         Script.run("promise 7, a neighbour outside the claim", """
             peg(0, 5, 1, 1); peg(1, 15, 1, 1); sink(0, 0, 5); dig(1, 1, 15) = 0; dig(0, 1, 15) ! state; dig(1, 0, 15) ! state
             peg(2, 14, 1, 1); peg(2, 16, 1, 1); peg(2, 25, 1, 1); peg(2, 24, 1, 1); dig(5, 2, 24) ! state; dig(2, 2, 14) = 0; dig(3, 2, 16) = 0; dig(4, 2, 25) = 0
@@ -86,6 +90,15 @@ public final class DiggingTest {
             peg(0, 8, 1, 2); peg(1, 10, 1, 2); sink(0, 0, 8); sink(0, 0, 9); sink(1, 1, 10); sink(1, 1, 11)
             ofCell(8, 0) = 1; ofCell(9, 0) = 1; ofCell(10, 0) = 1; ofCell(11, 0) = 1
             """);
+        Script.run("rows do not go on in the last one", """
+            peg(0, 8, 1, 2); peg(1, 10, 1, 2); sink(1, 1, 11); sink(1, 1, 10); sink(0, 0, 9); sink(0, 0, 8)
+            ofCell(8, 0) = 1; ofCell(9, 0) = 1; ofCell(10, 0) = 1; ofCell(11, 0) = 1
+            """);
+        Script.run("three to the end of a row, and one in the next row", """
+            peg(0, 47, 1, 3); peg(1, 50, 1, 3); sink(1, 1, 50); dig(1, 1, 51); dig(1, 1, 52); sink(0, 0, 49); dig(0, 0, 48); dig(0, 0, 47)
+            ofCell(47, 0) = 1; ofCell(48, 0) = 1; ofCell(49, 0) = 1; ofCell(50, 0) = 1; ofCell(51, 0) = 1; ofCell(52, 0) = 1
+            """);
+        everyFour();
         Script.run("the longest: four on both sides, and the cell", """
             peg(0, 30, 1, 3); peg(1, 33, 1, 1); peg(2, 34, 1, 3); sink(0, 0, 30); dig(0, 0, 31); dig(0, 0, 32)
             sink(2, 2, 34); dig(2, 2, 35); dig(2, 2, 36); dig(1, 1, 33) = 0
@@ -119,6 +132,38 @@ public final class DiggingTest {
         Script.run("a ratter lets fall", """
             peg(0, 0, 1, 4); sink(0, 0, 0); dig(0, 0, 1); dig(0, 0, 2); rat(1, 3) = 0; ofCell(0, 0) = 2; ofCell(3, 0) = 2
             """);
+    }
+
+    /** Four side by side fall, wherever on the ground, and whichever of them is opened last. */
+    private static void everyFour() {
+        for (int line = 0; line < 10; line++) {
+            for (int first = 0; first < 7; first++) {
+                for (int last = 0; last < 4; last++) {
+                    four(line * 10 + first, 1, last);
+                    four(first * 10 + line, 10, last);
+                }
+            }
+        }
+    }
+
+    private static void four(int first, int step, int last) {
+        Script script = new Script("four from " + first + " on by " + step + ", the last one is " + last);
+        script.play(step == 1 ? "peg(0, " + first + ", 1, 4) = 0" : "peg(0, " + first + ", 4, 1) = 0");
+        int sunk = 0;
+        for (int i = 0; i < 4; i++) {
+            if (i != last) {
+                String how = sunk < 1 || i == last + 1 ? "sink" : "dig";
+                sunk++;
+                script.play(how + "(0, 0, " + (first + i * step) + ")");
+            }
+        }
+        for (int i = 0; i < 4; i++) {
+            script.play("ofCell(" + (first + i * step) + ", 0) = " + (i == last ? 0 : 1));
+        }
+        script.play("dig(0, 0, " + (first + last * step) + ") = 0");
+        for (int i = 0; i < 4; i++) {
+            script.play("ofCell(" + (first + i * step) + ", 0) = 2");
+        }
     }
 
     private static void prop() {

@@ -42,6 +42,16 @@ public final class StonesTest {
             ofClaim(1, 5) = 1; divide(1) = 1; ofStone(1, 2) = 3; ofStone(3, 2) = 7; divide(1) ! state
             """);
         Script.run("promise 12, a lapsed one", "seam(0, 5, 0); peg(1, 0, 1, 1); sink(0, 1, 0); pass(99); ofClaim(0, 2) = 0; divide(0) = 1; ofStone(0, 2) = 1");
+        Script.run("promise 12, by the whole parcel exactly, the lesser share first", """
+            peg(1, 0, 2, 4); partner(0, 0, 3); seam(10, 7, 0); seam(11, 3, 0); sink(0, 1, 10); rat(5, 11) = 3; divide(0) = 1
+            seam(0, 10, 0); seam(1, 5, 0); seam(2, 5, 0); dig(0, 1, 0); dig(0, 1, 1); dig(0, 1, 2); divide(0) = 3
+            ofStone(2, 2) = 1; ofStone(3, 2) = 0; ofStone(4, 2) = 1
+            """);
+        Script.run("promise 12, by the whole parcel exactly, the greater share first", """
+            peg(0, 0, 2, 4); partner(0, 1, 3); seam(10, 7, 0); seam(11, 3, 0); sink(0, 0, 10); rat(5, 11) = 3; divide(0) = 1
+            seam(0, 10, 0); seam(1, 5, 0); seam(2, 5, 0); dig(0, 0, 0); dig(0, 0, 1); dig(0, 0, 2); divide(0) = 3
+            ofStone(2, 2) = 0; ofStone(3, 2) = 0; ofStone(4, 2) = 1
+            """);
         Script.run("promise 12, only the people get any", """
             peg(4, 0, 1, 3); seam(0, 900, 0); seam(1, 5, 0); seam(2, 4, 0); sink(0, 4, 0); dig(0, 4, 1); dig(0, 4, 2); partner(0, 7, 1)
             divide(0) = 3; ofStone(0, 2) = 4; ofStone(1, 2) = 7; ofStone(2, 2) = 7; ofPerson(0, 2) = 0
