@@ -839,15 +839,19 @@ public final class OpalField {
         /** Who of the PEOPLE is the farthest behind the share of a whole PARCEL. */
         int mostWanting(int whole, int[] given) {
             int chosen = owner;
-            int most = Integer.MIN_VALUE;
-            for (int person = 0; person < PERSONS && person < given.length; person++) {
-                int wanting = shares[person] * whole - TWELFTHS * given[person];
-                if (isOfPeople(person) && wanting > most) {
+            int most = wanting(owner, whole, given);
+            for (int person = 0; person < PERSONS; person++) {
+                int wanting = wanting(person, whole, given);
+                if (isOfPeople(person) && (wanting > most || wanting == most && person < chosen)) {
                     chosen = person;
                     most = wanting;
                 }
             }
             return chosen;
+        }
+
+        int wanting(int person, int whole, int[] given) {
+            return shares[person] * whole - TWELFTHS * given[person];
         }
     }
 
