@@ -149,7 +149,7 @@ public final class RandomTest {
             wentWell.merge(name, 1, Integer::sum);
             return answer == null ? "0" : answer.toString();
         } catch (InvocationTargetException thrown) {
-            return thrown.getCause().getClass().getName();
+            return Script.nameOf(thrown.getCause());
         }
     }
 

@@ -1,5 +1,7 @@
 import java.lang.reflect.InvocationTargetException;
 import java.lang.reflect.Method;
+import java.util.HashMap;
+import java.util.Map;
 import java.util.regex.Matcher;
 import java.util.regex.Pattern;
 
@@ -13,6 +15,7 @@ final class Script {
     private static final int MOST_CALLS = 512;
     private static final Pattern FORM =
             Pattern.compile("(?:(\\d+) times )?(\\w+)\\(([^)]*)\\)(?: = (-?\\d+)| ! (bounds|argument|state))?");
+    private static final Map<String, Method> METHODS = new HashMap<>();
     private static int right = 0;
     private static int wrong = 0;
 
@@ -56,6 +59,12 @@ final class Script {
         }
     }
 
+    /** What one call answers, as a text: a number, "null" of a void one, or an exception's name. */
+    String answer(String call) {
+        Matcher form = FORM.matcher(call);
+        return form.matches() ? answerOf(form.group(2), form.group(3)) : "no call";
+    }
+
     private String answerOf(String name, String arguments) {
         calls++;
         if (calls > MOST_CALLS) {
@@ -68,22 +77,33 @@ final class Script {
             }
             return String.valueOf(methodOf(name).invoke(field, values));
         } catch (InvocationTargetException thrown) {
-            return thrown.getCause().getClass().getName();
+            return nameOf(thrown.getCause());
         } catch (IllegalAccessException none) {
             return "no such method";
         }
     }
 
     private static Method methodOf(String name) {
-        for (Method method : OpalField.class.getMethods()) {
-            if (method.getName().equals(name)) {
-                return method;
+        if (METHODS.isEmpty()) {
+            for (Method method : OpalField.class.getMethods()) {
+                METHODS.put(method.getName(), method);
             }
         }
-        throw new IllegalArgumentException("no such method: " + name);
+        if (!METHODS.containsKey(name)) {
+            throw new IllegalArgumentException("no such method: " + name);
+        }
+        return METHODS.get(name);
     }
 
-    private static String nameOf(String kind) {
+    /** A list or the machine may throw what the document names, too: so it must have been thrown in OpalField. */
+    static String nameOf(Throwable thrown) {
+        StackTraceElement[] trace = thrown.getStackTrace();
+        String name = thrown.getClass().getName();
+        boolean own = trace.length > 0 && trace[0].getClassName().startsWith("OpalField");
+        return own ? name : name + ", not by a throw of OpalField";
+    }
+
+    static String nameOf(String kind) {
         switch (kind) {
             case "bounds":
                 return IndexOutOfBoundsException.class.getName();
